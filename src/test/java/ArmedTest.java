@@ -21,6 +21,7 @@ public final class ArmedTest {
         takePaysMedics();
         takeTires();
         takeThrows();
+        fullLedger();
         CHECK.end();
     }
 
@@ -385,5 +386,48 @@ public final class ArmedTest {
         x.arm(0);
         x.take(0);
         CHECK.state(x, "take() again", () -> x.take(0));
+    }
+
+    /** With 8 people, 12 pieces of kit and 6 gags all rows are full. Person 0 is the only medic. */
+    private static void fullLedger() {
+        Stuntledger x = new Stuntledger();
+        for (int i = 0; i < 8; i++) {
+            x.person(false, i == 0);
+            x.skill(i, 0, 9);
+            x.walk(i, 99);
+        }
+        for (int i = 0; i < 6; i++) {
+            x.gag(0, 7 - i % 2, 10 + 8 * i, i == 5 ? 30 : 3);
+        }
+        for (int i = 0; i < 12; i++) {
+            x.kit(0, 1, 2);
+            x.inspect(i);
+            x.put(i, i / 3);
+        }
+        for (int g = 0; g < 5; g++) {
+            Stage.prepare(x, g);
+        }
+        bar(x, 4, "in a full ledger without a MEDIC near", 9);
+        x.walk(0, 30);
+        for (int g = 0; g < 5; g++) {
+            bar(x, g, "in a full ledger", 0);
+        }
+        CHECK.due("ARMED", x.many(7), 31);
+        CHECK.due("walk() into the last RING", x.walk(1, 42), 16);
+        CHECK.due("what bars it then", x.ofGag(4, 12), 10);
+        x.walk(1, 99);
+        CHECK.due("arm(4) again", x.arm(4), 0);
+        x.skill(7, 0, 0);
+        CHECK.due("take() that hurts 7", x.take(0), 3 + 20 - 30 - 36 / 2);
+        CHECK.due("USES", x.ofKit(0, 2) + 10 * x.ofKit(2, 2) + 100 * x.ofKit(3, 2), 211);
+        CHECK.due("PAY of the MEDIC", x.ofPerson(0, 9), 20);
+        CHECK.due("ARMED as 7 is HURT", x.many(7), 8 + 2);
+        x.skill(6, 0, 0);
+        Stage.miss(x, 5, 2);
+        CHECK.due("stood DOWN by the third MISS", x.many(13), 1 + 2 + 2);
+        CHECK.due("CARE", x.ofKind(0, true), 1);
+        CHECK.due("weather(8, false)", x.weather(8, false), 0);
+        CHECK.due("pass(5)", x.pass(5), 5);
+        CHECK.due("PEOPLE that are HURT", x.many(9), 0);
     }
 }

@@ -1,6 +1,8 @@
 import java.io.IOException;
 import java.nio.file.Files;
 import java.nio.file.Path;
+import java.util.Map;
+import java.util.TreeMap;
 import java.util.regex.Matcher;
 import java.util.regex.Pattern;
 
@@ -29,6 +31,7 @@ public final class LanguageTest {
         thrown(code);
         made(code);
         methodsAreShort(code);
+        callsAreShallow(code);
         CHECK.end();
     }
 
@@ -69,5 +72,35 @@ public final class LanguageTest {
                 CHECK.due("rule 11, " + lines[start].trim(), i - start <= 60, true);
             }
         }
+    }
+
+    /** Rule 11: calls go eight deep at the most; rule 8: none comes back to itself. */
+    private static void callsAreShallow(String code) {
+        Map<String, String> bodies = new TreeMap<>();
+        Matcher m = Pattern.compile("\n    (?:public|private)[^;={]*?(\\w+)\\([^;{]*\\{\n(.*?)\n    \\}", Pattern.DOTALL)
+                .matcher(code);
+        while (m.find()) {
+            bodies.put(m.group(1), m.group(2));
+        }
+        CHECK.due("methods found", bodies.size() > 60, true);
+        for (String name : bodies.keySet()) {
+            int depth = depth(name, bodies, 1);
+            CHECK.due("rule 11, calls of " + name + "() go " + depth + " deep", depth <= 8, true);
+        }
+    }
+
+    private static int depth(String name, Map<String, String> bodies, int at) {
+        int deepest = at;
+        Matcher m = Pattern.compile("\\b(\\w+)\\(").matcher(bodies.get(name));
+        while (m.find() && at < 100) {
+            if (bodies.containsKey(m.group(1)) && !isMadeOrForeign(bodies.get(name), m.start())) {
+                deepest = Math.max(deepest, depth(m.group(1), bodies, at + 1));
+            }
+        }
+        return deepest;
+    }
+
+    private static boolean isMadeOrForeign(String body, int at) {
+        return body.startsWith("new ", Math.max(0, at - 4)) || at > 0 && body.charAt(at - 1) == '.';
     }
 }

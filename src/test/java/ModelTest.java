@@ -50,13 +50,14 @@ public final class ModelTest {
     }
 
     private void runAll() {
-        for (int i = 0, n = 2 + upTo(4); i < n; i++) {
+        boolean isFull = oneIn(5);
+        for (int i = 0, n = isFull ? 9 : 2 + upTo(4); i < n; i++) {
             anyPerson();
         }
-        for (int i = 0, n = upTo(8); i < n; i++) {
+        for (int i = 0, n = isFull ? 13 : upTo(8); i < n; i++) {
             anyKit();
         }
-        for (int i = 0, n = 1 + upTo(4); i < n; i++) {
+        for (int i = 0, n = isFull ? 7 : 1 + upTo(4); i < n; i++) {
             anyGag();
         }
         while (calls < CALLS) {

@@ -268,6 +268,10 @@ public final class WouldBeTest {
         CHECK.due("safeFrom() with 99 alone outside", y.safeFrom(4), 99);
         y.change(4, 0, 50, 1);
         CHECK.due("safeFrom() from 50, with 0 and 99 outside", y.safeFrom(4), 49);
+        y.change(4, 0, 49, 1);
+        CHECK.due("safeFrom() from 49, with 0 and 99 outside", y.safeFrom(4), 49);
+        y.change(4, 0, 1, 1);
+        CHECK.due("safeFrom() from 1, with 0 and 99 outside", y.safeFrom(4), 1);
     }
 
     private static long mix(long d, long v) {
