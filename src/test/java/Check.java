@@ -4,6 +4,10 @@ final class Check {
         long answer();
     }
 
+    static final String OUTSIDE = "throws.IndexOutOfBoundsException";
+    static final String ILLEGAL = "throws.IllegalArgumentException";
+    static final String STATE = "throws.IllegalStateException";
+
     private final String test;
     private int looked = 0;
     private int wrong = 0;
@@ -39,23 +43,24 @@ final class Check {
 
     /** The call throws IndexOutOfBoundsException and changes nothing. */
     void outside(Stuntledger x, String call, Call made) {
-        thrown(x, call, made, "IndexOutOfBoundsException");
+        refused(x, call, made, OUTSIDE);
     }
 
     /** The call throws IllegalArgumentException and changes nothing. */
     void illegal(Stuntledger x, String call, Call made) {
-        thrown(x, call, made, "IllegalArgumentException");
+        refused(x, call, made, ILLEGAL);
     }
 
     /** The call throws IllegalStateException and changes nothing. */
     void state(Stuntledger x, String call, Call made) {
-        thrown(x, call, made, "IllegalStateException");
+        refused(x, call, made, STATE);
     }
 
-    private void thrown(Stuntledger x, String call, Call made, String want) {
+    /** The call ends with this outcome, which is one of an exception, and changes nothing. */
+    void refused(Stuntledger x, String call, Call made, String want) {
         long before = x.digest();
         double meanBefore = x.meanMargin();
-        due(call, outcome(made), "throws." + want);
+        due(call, outcome(made), want);
         due("digest() behind " + call, x.digest(), before);
         due("meanMargin() behind " + call, x.meanMargin(), meanBefore);
     }

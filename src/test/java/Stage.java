@@ -55,6 +55,17 @@ final class Stage {
         arm(x, gag);
     }
 
+    /** The same, whatever its step is by now: no more rehearsals than it needs. */
+    static void prepareAndArmAgain(Stuntledger x, int gag) {
+        for (int step = x.ofGag(gag, 8); step < 4; step++) {
+            x.rehearse(gag);
+        }
+        for (int signer = 0; signer < 3; signer++) {
+            x.sign(gag, signer);
+        }
+        arm(x, gag);
+    }
+
     /** Lets rehearsals of this gag, which is beyond its performer, miss: each run up to a miss is one. */
     static void miss(Stuntledger x, int gag, int times) {
         int kind = x.ofGag(gag, 0);
@@ -65,5 +76,75 @@ final class Stage {
         if (x.ofKind(kind, false) != due) {
             throw new AssertionError("gag " + gag + " did not miss");
         }
+    }
+
+    /** The crew, and gag 0 of this kind and level by person 0 at place 50, with a fit piece of this guard. */
+    static Stuntledger guarded(int kind, int level, int guard) {
+        Stuntledger x = crew();
+        x.gag(kind, 0, 50, level);
+        x.kit(kind, guard, 5);
+        x.inspect(0);
+        x.put(0, 0);
+        return x;
+    }
+
+    /** Lets the gag's performer rehearse until so tired; the gag must be one that does not miss. */
+    static void tire(Stuntledger x, int gag, int due) {
+        int performer = x.ofGag(gag, 1);
+        for (int i = 0; i < 40 && x.ofPerson(performer, 7) != due; i++) {
+            x.rehearse(gag);
+        }
+        if (x.ofPerson(performer, 7) != due) {
+            throw new AssertionError("the performer of gag " + gag + " can't be tired by " + due);
+        }
+    }
+
+    /** 3 people, 2 pieces of kit, and 2 gags, of which gag 0 is armed; piece 0 is put to it. */
+    static Stuntledger some() {
+        Stuntledger x = guarded(0, 5, 10);
+        x.person(true, false);
+        x.kit(3, 20, 1);
+        x.gag(3, 0, 90, 1);
+        prepareAndArm(x, 0);
+        return x;
+    }
+
+    /**
+     * 8 people, 12 pieces of kit and 6 gags, none armed: gag 1 is at step 4 and has signature 1, gag 2 was
+     * taken, gag 5's performer (person 7) is hurt, gag 0 may be armed; piece 0 is put to gag 0.
+     */
+    static Stuntledger full() {
+        Stuntledger x = crew();
+        for (int p = 2; p < 8; p++) {
+            x.person(p == 6, false);
+            x.walk(p, 99);
+        }
+        for (int g = 0; g < 6; g++) {
+            x.gag(g % 4, g == 5 ? 7 : 0, g == 5 ? 60 : 50, g == 5 ? 6 : 2);
+        }
+        for (int k = 0; k < 12; k++) {
+            x.kit(k % 4, 1 + k, 1 + k % 5);
+        }
+        x.put(0, 0);
+        x.inspect(0);
+        prepareAndArm(x, 2);
+        x.take(2);
+        x.skill(7, 1, 9);
+        prepareAndArm(x, 5);
+        x.skill(7, 1, 0);
+        x.take(5);
+        prepare(x, 0);
+        for (int i = 0; i < 4; i++) {
+            x.rehearse(1);
+        }
+        x.sign(1, 1);
+        return x;
+    }
+
+    /** The full ledger, with gag 0 armed. */
+    static Stuntledger fullAndArmed() {
+        Stuntledger x = full();
+        arm(x, 0);
+        return x;
     }
 }
