@@ -314,8 +314,8 @@ public final class ArgumentsTest {
     }
 
     private void ofPerson() {
-        Stuntledger x = make();
         for (int p : all(0, people - 1)) {
+            Stuntledger x = make();
             for (int what : all(0, 11)) {
                 isTaken(x, "ofPerson(" + p + ", " + what + ")", () -> x.ofPerson(p, what),
                         first(!isPerson(p), !in(what, 0, 11), false));
@@ -324,8 +324,8 @@ public final class ArgumentsTest {
     }
 
     private void ofKit() {
-        Stuntledger x = make();
         for (int k : all(0, pieces - 1)) {
+            Stuntledger x = make();
             for (int what : all(0, 5)) {
                 isTaken(x, "ofKit(" + k + ", " + what + ")", () -> x.ofKit(k, what),
                         first(!isPiece(k), !in(what, 0, 5), false));
@@ -334,8 +334,8 @@ public final class ArgumentsTest {
     }
 
     private void ofGag() {
-        Stuntledger x = make();
         for (int g : all(0, gags - 1)) {
+            Stuntledger x = make();
             for (int what : all(0, 13)) {
                 isTaken(x, "ofGag(" + g + ", " + what + ")", () -> x.ofGag(g, what),
                         first(!isGag(g), !in(what, 0, 13), false));

@@ -25,6 +25,7 @@ public final class BarsTest {
         medicWhoPerforms();
         medicWhoIsHurt();
         somebodyBars();
+        somebodyBarsWhoeverItIs();
         somebodyBarsAtTheSmallestRing();
         anotherBars();
         anotherBarsAtTheSmallestRings();
@@ -452,6 +453,26 @@ public final class BarsTest {
         bar(y, 0, "with a MEDIC who was HURT 4 DAYS ago", 9);
         y.pass(1);
         bar(y, 0, "with a MEDIC who was HURT 5 DAYS ago", 0);
+    }
+
+    /** Each of 8 people performs, and each of the others stands in the ring, the medics, too. */
+    private static void somebodyBarsWhoeverItIs() {
+        for (int performer = 0; performer < 8; performer++) {
+            Stuntledger x = new Stuntledger();
+            for (int p = 0; p < 8; p++) {
+                x.person(false, p != 3);
+                x.skill(p, 0, 9);
+                x.walk(p, 60);
+            }
+            x.gag(0, performer, 50, 5);
+            Stage.prepare(x, 0);
+            for (int p = 0; p < 8; p++) {
+                x.walk(p, 50);
+                CHECK.due("what bars it of " + performer + " with " + p + " there", x.ofGag(0, 12), p == performer ? 0 : 10);
+                x.walk(p, 60);
+            }
+            bar(x, 0, "of " + performer + " with nobody there", 0);
+        }
     }
 
     /** Fire of level 1 has no energy, and its ring is its own place. */

@@ -7,6 +7,7 @@ public final class DownEdgesTest {
         ringsEdgeByAWalk();
         ringsEdgeAsOneComesNew();
         ringsEdgeAsItGrows();
+        ringsThatGrowAroundEachOfThem();
         ringsThatShrink();
         performerNeverStandsInTheRing();
         performerOfAnother();
@@ -124,6 +125,42 @@ public final class DownEdgesTest {
                     CHECK.due("SIGNATURES behind " + call, x.ofGag(0, 9), 7);
                     CHECK.due("STEP behind " + call, x.ofGag(0, 8), 4);
                 }
+            }
+        }
+    }
+
+    /** Each of 8 people performs, and each of the others stands where the ring grows to, or is the one who comes new. */
+    private static void ringsThatGrowAroundEachOfThem() {
+        for (int performer = 0; performer < 8; performer++) {
+            for (int somebody = 0; somebody < 8; somebody++) {
+                Stuntledger x = new Stuntledger();
+                for (int p = 0; p < 8; p++) {
+                    x.person(false, true);
+                    x.walk(p, p == somebody ? 53 : 60);
+                }
+                x.skill(performer, 2, 9);
+                x.gag(2, performer, 50, 5);
+                Stage.prepareAndArm(x, 0);
+                String who = performer + " performs, " + somebody + " is at 53";
+                CHECK.due("weather(2, true), " + who, x.weather(2, true), 0);
+                CHECK.due("weather(3, true), " + who, x.weather(3, true), performer == somebody ? 0 : 1);
+            }
+        }
+        for (int there = 1; there < 8; there++) {
+            Stuntledger x = new Stuntledger();
+            for (int p = 0; p <= there; p++) {
+                x.person(false, true);
+                x.walk(p, 20);
+            }
+            x.skill(0, 0, 9);
+            x.gag(0, 0, 2, 5);
+            Stage.prepareAndArm(x, 0);
+            if (there < 7) {
+                CHECK.due("person() into the RING", x.person(false, false), there + 1);
+                stillArmed(x, "behind that", 0, 1);
+            } else {
+                CHECK.state(x, "person() with 8", () -> x.person(false, false));
+                stillArmed(x, "behind that", 1, 0);
             }
         }
     }

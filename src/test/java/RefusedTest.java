@@ -6,8 +6,12 @@ import java.util.Random;
  */
 public final class RefusedTest {
     private static final Check CHECK = new Check("RefusedTest");
-    private static final int RUNS = 60;
-    private static final int CALLS = 160;
+    private static final int RUNS = 400;
+    /** With so many rounds an object stays under the 512 calls that it is used for at most. */
+    private static final int ROUNDS = 16;
+    private static final int MOST_REFUSALS_A_ROUND = 12;
+    /** One of so many refusals is asked for, round by round. */
+    private static final int ONE_OF = 4;
     /** Numbers that no person, piece, gag, kind, signer, skill, place, level, guard or wind ever has. */
     private static final int[] WRONG = {Integer.MIN_VALUE, -1000, -2, 100, 128, Integer.MAX_VALUE};
 
@@ -15,6 +19,7 @@ public final class RefusedTest {
     private final Stuntledger plain;
     private final Stuntledger refusing;
     private int refusals = 0;
+    private int refusalsOfRound = 0;
 
     private RefusedTest(int seed) {
         random = new Random(seed);
@@ -30,7 +35,7 @@ public final class RefusedTest {
             test.lead(seed);
             refusals += test.refusals;
         }
-        CHECK.due("there were many refusals: " + refusals, refusals > 20 * RUNS * CALLS, true);
+        CHECK.due("there were many refusals: " + refusals, refusals > 5 * ROUNDS * RUNS, true);
         CHECK.end();
     }
 
@@ -58,7 +63,7 @@ public final class RefusedTest {
     }
 
     private void lead(int seed) {
-        for (int i = 0; i < CALLS; i++) {
+        for (int i = 0; i < ROUNDS; i++) {
             String name = "run " + seed + ", call " + i;
             refuse(name);
             int choice = random.nextInt(16);
@@ -123,12 +128,18 @@ public final class RefusedTest {
     }
 
     private void refused(String name, Check.Call made) {
+        if (refusalsOfRound == MOST_REFUSALS_A_ROUND || random.nextInt(ONE_OF) != 0) {
+            return;
+        }
         refusals++;
+        refusalsOfRound++;
         CHECK.due(name, Check.outcome(made).startsWith("throws."), true);
     }
 
     private void refuse(String name) {
         Stuntledger x = refusing;
+        refusalsOfRound = 0;
+        refuseByState(name);
         int w = wrong();
         int v = wrong();
         refused(name + ", skill() of nobody", () -> x.skill(w, 0, 9));
@@ -167,40 +178,38 @@ public final class RefusedTest {
         refused(name + ", many() of nothing", () -> x.many(w));
         refused(name + ", mostLevel() of no GAG", () -> x.mostLevel(w));
         refused(name + ", safeFrom() of no GAG", () -> x.safeFrom(w));
-        refuseByState(name);
     }
 
-    /** What only the state forbids. */
+    /** What only the state forbids, of one of the gags; the state is asked of the other ledger. */
     private void refuseByState(String name) {
         Stuntledger x = refusing;
-        if (x.many(3) == 8) {
+        if (plain.many(3) == 8) {
             refused(name + ", person() with 8", () -> x.person(true, true));
         }
-        if (x.many(4) == 12) {
+        if (plain.many(4) == 12) {
             refused(name + ", kit() with 12", () -> x.kit(0, 1, 1));
         }
-        if (x.many(6) == 6) {
+        int gags = plain.many(6);
+        if (gags == 6) {
             refused(name + ", gag() with 6", () -> x.gag(0, 0, 0, 1));
         }
-        if (x.many(7) != 0) {
+        if (plain.many(7) != 0) {
             refused(name + ", pass() with what is ARMED", () -> x.pass(30));
         }
-        for (int g = 0; g < x.many(6); g++) {
-            int gag = g;
-            if (x.ofGag(g, 11) == 1) {
-                refused(name + ", arm() of what is ARMED", () -> x.arm(gag));
-                refused(name + ", rehearse() of what is ARMED", () -> x.rehearse(gag));
-                refused(name + ", sign() of what is ARMED", () -> x.sign(gag, 1));
-            } else {
-                refused(name + ", down() of what is not ARMED", () -> x.down(gag));
-                refused(name + ", take() of what is not ARMED", () -> x.take(gag));
-            }
-            if (x.ofPerson(x.ofGag(g, 1), 8) == 1) {
-                refused(name + ", rehearse() of the HURT", () -> x.rehearse(gag));
-            }
-            if (x.ofGag(g, 8) < 4) {
-                refused(name + ", sign() at a STEP below 4", () -> x.sign(gag, 2));
-            }
+        int gag = random.nextInt(gags);
+        if (plain.ofGag(gag, 11) == 1) {
+            refused(name + ", arm() of what is ARMED", () -> x.arm(gag));
+            refused(name + ", rehearse() of what is ARMED", () -> x.rehearse(gag));
+            refused(name + ", sign() of what is ARMED", () -> x.sign(gag, 1));
+        } else {
+            refused(name + ", down() of what is not ARMED", () -> x.down(gag));
+            refused(name + ", take() of what is not ARMED", () -> x.take(gag));
+        }
+        if (plain.ofPerson(plain.ofGag(gag, 1), 8) == 1) {
+            refused(name + ", rehearse() of the HURT", () -> x.rehearse(gag));
+        }
+        if (plain.ofGag(gag, 8) < 4) {
+            refused(name + ", sign() at a STEP below 4", () -> x.sign(gag, 2));
         }
     }
 }

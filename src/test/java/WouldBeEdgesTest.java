@@ -22,6 +22,7 @@ public final class WouldBeEdgesTest {
         needsJustEnough();
         needsOfEquals();
         needsOfWhatIsFitAndFree();
+        needsOfItsKindAlone();
         needsOfTheWholeRow();
         safeFromBesideTheRing();
         safeFromTheLastPlaces();
@@ -310,6 +311,26 @@ public final class WouldBeEdgesTest {
         CHECK.due("needs() with what is put to it", x.needs(0), 4);
     }
 
+    /** Of each kind there is a free piece that is fit: only that of the gag's kind will do. */
+    private static void needsOfItsKindAlone() {
+        for (int kind = 0; kind < 4; kind++) {
+            Stuntledger x = new Stuntledger();
+            x.person(false, false);
+            x.gag(kind, 0, 50, 8);
+            for (int k = 0; k < 4; k++) {
+                x.kit(k, k == kind ? 80 : 90, 1);
+                x.inspect(k);
+            }
+            CHECK.due("MARGIN is below 0", x.ofGag(0, 7) < 0, true);
+            CHECK.due("needs() of KIND " + kind, x.needs(0), 1 << kind);
+            x.put(kind, 0);
+            CHECK.due("needs() of KIND " + kind + " with that", x.needs(0), 0);
+            x.change(0, 0, 50, 30);
+            CHECK.due("MARGIN is below 0", x.ofGag(0, 7) < 0, true);
+            CHECK.due("needs() of KIND " + kind + ", of what is left", x.needs(0), 0);
+        }
+    }
+
     private static void needsOfTheWholeRow() {
         CHECK.due("needs() of twelve that are enough", inNeed(6, 7, 7, 7, 7, 7, 7, 7, 7, 7, 6, 6).needs(0), 4095);
         CHECK.due("needs() of twelve, the last alone", inNeed(6, 7, 7, 7, 7, 7, 7, 7, 7, 7, 6, 80).needs(0), 2048);
@@ -428,17 +449,17 @@ public final class WouldBeEdgesTest {
         for (int what = 0; what < 14; what++) {
             d = d.multiply(by).add(BigInteger.valueOf(x.many(what)));
         }
-        for (int p = 0; p < x.many(3); p++) {
+        for (int p = 0, n = x.many(3); p < n; p++) {
             for (int what = 0; what < 12; what++) {
                 d = d.multiply(by).add(BigInteger.valueOf(x.ofPerson(p, what)));
             }
         }
-        for (int k = 0; k < x.many(4); k++) {
+        for (int k = 0, n = x.many(4); k < n; k++) {
             for (int what = 0; what < 6; what++) {
                 d = d.multiply(by).add(BigInteger.valueOf(x.ofKit(k, what)));
             }
         }
-        for (int g = 0; g < x.many(6); g++) {
+        for (int g = 0, n = x.many(6); g < n; g++) {
             int[] numbers = new int[18];
             for (int what = 0; what < 14; what++) {
                 numbers[what] = x.ofGag(g, what);

@@ -283,17 +283,17 @@ public final class WouldBeTest {
         for (int what = 0; what < 14; what++) {
             d = mix(d, x.many(what));
         }
-        for (int p = 0; p < x.many(3); p++) {
+        for (int p = 0, n = x.many(3); p < n; p++) {
             for (int what = 0; what < 12; what++) {
                 d = mix(d, x.ofPerson(p, what));
             }
         }
-        for (int k = 0; k < x.many(4); k++) {
+        for (int k = 0, n = x.many(4); k < n; k++) {
             for (int what = 0; what < 6; what++) {
                 d = mix(d, x.ofKit(k, what));
             }
         }
-        for (int g = 0; g < x.many(6); g++) {
+        for (int g = 0, n = x.many(6); g < n; g++) {
             for (int what = 0; what < 14; what++) {
                 d = mix(d, x.ofGag(g, what));
             }
@@ -318,8 +318,9 @@ public final class WouldBeTest {
         x.inspect(0);
         CHECK.due("digest() with two GAGS", x.digest(), digestByAsking(x));
         Stage.miss(x, 1, 4);
-        CHECK.due("digest() with MISSES", x.digest(), digestByAsking(x));
-        CHECK.due("digest() again", x.digest(), digestByAsking(x));
+        long asked = digestByAsking(x);
+        CHECK.due("digest() with MISSES", x.digest(), asked);
+        CHECK.due("digest() again", x.digest(), asked);
         Stage.prepareAndArm(x, 0);
         CHECK.due("digest() with what is ARMED", x.digest(), digestByAsking(x));
         x.take(0);
